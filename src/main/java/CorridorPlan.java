@@ -756,6 +756,11 @@ public final class CorridorPlan {
         private final int[] path = new int[SQUARES];
         private int places = 0;
         private int width = 1;
+        /** The chamber looked at: its least column and row, and the first ones behind it. */
+        private int left = 0;
+        private int top = 0;
+        private int right = 0;
+        private int bottom = 0;
 
         // ---- the least way of two chambers
 
@@ -763,10 +768,12 @@ public final class CorridorPlan {
         int find(Plan plan, int one, int other) {
             width = Math.max(1, plan.widthBetween(one, other));
             measure(plan);
-            startAt(plan, other);
+            lookAt(plan, other);
+            startWhereLooked();
             spread();
+            lookAt(plan, one);
             places = 0;
-            int first = bestFirstPlace(plan, one);
+            int first = bestFirstPlace();
             if (first == NONE) {
                 return NONE;
             }
@@ -824,27 +831,30 @@ public final class CorridorPlan {
             return place >= 0 && place < standing.length && standing[place] < BLOCKED;
         }
 
-        private boolean isAtChamber(Plan plan, int place, int room) {
-            int x = place % COLUMNS;
-            int y = place / COLUMNS;
-            int left = plan.box(room, BOX_LEFT);
-            int top = plan.box(room, BOX_TOP);
-            int right = left + plan.box(room, BOX_COLUMNS);
-            int bottom = top + plan.box(room, BOX_ROWS);
-            boolean sharesColumn = x < right && left < x + width;
-            boolean sharesRow = y < bottom && top < y + width;
-            boolean touchesSide = x == right || left == x + width;
-            boolean touchesEnd = y == bottom || top == y + width;
-            return touchesSide && sharesRow || touchesEnd && sharesColumn;
+        private void lookAt(Plan plan, int room) {
+            left = plan.box(room, BOX_LEFT);
+            top = plan.box(room, BOX_TOP);
+            right = left + plan.box(room, BOX_COLUMNS);
+            bottom = top + plan.box(room, BOX_ROWS);
         }
 
-        private void startAt(Plan plan, int room) {
+        /** Whether a walker on the place, which has no square of a chamber, is at the chamber looked at. */
+        private boolean isAtChamber(int place) {
+            int x = place % COLUMNS;
+            int y = place / COLUMNS;
+            if (x == right || x + width == left) {
+                return y < bottom && top < y + width;
+            }
+            return (y == bottom || y + width == top) && x < right && left < x + width;
+        }
+
+        private void startWhereLooked() {
             Arrays.fill(rest, NO_WAY);
             clearMarks(queued);
             queueHead = 0;
             queueSize = 0;
             for (int place = 0; place < SQUARES; place++) {
-                if (canStand(place) && isAtChamber(plan, place, room)) {
+                if (canStand(place) && isAtChamber(place)) {
                     reach(place, 1);
                 }
             }
@@ -899,11 +909,11 @@ public final class CorridorPlan {
             return COST * at(standing, first) + at(rest, first);
         }
 
-        private int bestFirstPlace(Plan plan, int room) {
+        private int bestFirstPlace() {
             int best = NONE;
             int bestLength = NO_WAY;
             for (int place = 0; place < SQUARES; place++) {
-                if (canStand(place) && isAtChamber(plan, place, room) && lengthFrom(place) < bestLength) {
+                if (canStand(place) && isAtChamber(place) && lengthFrom(place) < bestLength) {
                     best = place;
                     bestLength = lengthFrom(place);
                 }

@@ -152,4 +152,25 @@ final class Checks {
         plan.walk(0, 1, 3);
         return plan;
     }
+
+    /**
+     * A at the left and B at the right, on the rows 5 and 6, with a ring of some width dug along the sides of the
+     * plan, from row 0 to 5 or from row 6 to 11; who walks there is as broad as the ring.
+     */
+    static CorridorPlan ring(int width, int firstRow) {
+        CorridorPlan plan = new CorridorPlan();
+        plan.room(width, 5, 1, 2);
+        plan.room(15 - width, 5, 1, 2);
+        plan.walk(0, 1, width);
+        for (int y = firstRow; y < firstRow + 6; y++) {
+            for (int x = 0; x < 16; x++) {
+                boolean atSide = x < width || x >= 16 - width;
+                boolean atEnd = firstRow == 0 ? y < width : y >= 12 - width;
+                if (atSide || atEnd) {
+                    plan.dig(x, y);
+                }
+            }
+        }
+        return plan;
+    }
 }

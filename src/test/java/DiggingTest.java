@@ -17,6 +17,7 @@ public final class DiggingTest {
         fillUp();
         fillUpByFormer();
         fillUpBroad();
+        fillUpAtTheEdges();
         set();
         CHECKS.end();
     }
@@ -143,6 +144,9 @@ public final class DiggingTest {
         plan.walk(0, 2, 1);
         CHECKS.due("carveAll(), one has a way", 1, plan.carveAll());
         CHECKS.due("carveAll(), that one is open", 0, plan.carveAll());
+        plan.walk(0, 1, 1);
+        CHECKS.due("carveAll(), one square is missing", 1, plan.carveAll());
+        CHECKS.due("square(2, 1, 0)", -1, plan.square(2, 1, 0));
         CorridorPlan nobody = Checks.threeInARow();
         CHECKS.due("carveAll(), nobody walks", 0, nobody.carveAll());
         CHECKS.duePicture(nobody, "where nobody walks", ROCK, "AA####BB####CC##", "AA####BB####CC##");
@@ -185,6 +189,22 @@ public final class DiggingTest {
         Checks.digAll(plan, 34, 35, 36, 37);
         CHECKS.due("fillUp(), a pair and one", 4, plan.fillUp());
         CHECKS.duePicture(plan, "behind fillUp()", "##...........###", "AA....BB####CC##", "AA####BB####CC##");
+    }
+
+    private static void fillUpAtTheEdges() {
+        for (int width = 1; width <= 3; width += 2) {
+            for (int firstRow = 0; firstRow <= 6; firstRow += 6) {
+                CorridorPlan plan = Checks.ring(width, firstRow);
+                CHECKS.due("fillUp(), all is needed", 0, plan.fillUp());
+                plan.dig(8, 6);
+                CHECKS.due("fillUp(), all but one is needed", 1, plan.fillUp());
+                plan.dig(0, firstRow == 0 ? 0 : 11);
+                CHECKS.due("carve(0, 1), the corner was filled", 1, plan.carve(0, 1));
+                plan.walk(0, 1, 0);
+                int dug = plan.count(1);
+                CHECKS.due("fillUp(), nothing is needed", dug, plan.fillUp());
+            }
+        }
     }
 
     private static void set() {

@@ -9,10 +9,12 @@ public final class LooksTest {
         chamber();
         chamberFacing();
         chamberFacingFar();
+        chamberAtTheEdges();
         chamberWalkers();
         way();
         wayByPlaces();
         wayBroad();
+        wayAtTheEdges();
         wayRefused();
         count();
         CHECKS.end();
@@ -150,6 +152,24 @@ public final class LooksTest {
         dueFacing(wide, "eleven squares between", 0, 0, 0);
     }
 
+    /** Doors on the outermost squares, that face one another along the sides of the plan. */
+    private static void chamberAtTheEdges() {
+        CorridorPlan plan = new CorridorPlan();
+        plan.room(1, 0, 1, 1);
+        plan.room(3, 0, 1, 1);
+        plan.room(0, 2, 1, 1);
+        plan.room(0, 4, 1, 1);
+        plan.room(15, 10, 1, 1);
+        plan.room(13, 11, 1, 1);
+        Checks.digAll(plan, 0, 16, 2, 3 * 16, 9 * 16 + 15, 11 * 16 + 15, 11 * 16 + 14, 11 * 16 + 12);
+        dueFacing(plan, "at the edges", 2, 1, 1, 1, 1, 0, 0);
+        int[] doors = {2, 1, 2, 1, 2, 2};
+        for (int room = 0; room < doors.length; room++) {
+            CHECKS.due("chamber(" + room + ", 4), at the edges", doors[room], plan.chamber(room, 4));
+        }
+        CHECKS.due("count(5), at the edges", 10, plan.count(5));
+    }
+
     private static void chamberWalkers() {
         CorridorPlan plan = Checks.threeInARow();
         plan.room(14, 3, 1, 1);
@@ -221,6 +241,28 @@ public final class LooksTest {
         CHECKS.dueWay(edge, 0, 1, 10, 4, 9 * 16 + 1, 9 * 16 + 4, 2);
         edge.walk(0, 1, 3);
         CHECKS.dueWay(edge, 0, 1, 12, 2, 9 * 16 + 1, 9 * 16 + 2, 3);
+    }
+
+    /** Open ways along all sides of the plan, over all its corners: for one, and for a cart. */
+    private static void wayAtTheEdges() {
+        CHECKS.dueWay(Checks.ring(1, 0), 0, 1, 0, 26, 5 * 16, 5 * 16 + 15, 1);
+        CHECKS.dueWay(Checks.ring(1, 0), 1, 0, 0, 26, 5 * 16 + 15, 5 * 16, 1);
+        CHECKS.dueWay(Checks.ring(1, 6), 0, 1, 0, 26, 6 * 16, 6 * 16 + 15, 1);
+        CHECKS.dueWay(Checks.ring(1, 6), 1, 0, 0, 26, 6 * 16 + 15, 6 * 16, 1);
+        CHECKS.dueWay(Checks.ring(3, 0), 0, 1, 0, 20, 3 * 16, 3 * 16 + 13, 3);
+        CHECKS.dueWay(Checks.ring(3, 0), 1, 0, 0, 20, 3 * 16 + 13, 3 * 16, 3);
+        CHECKS.dueWay(Checks.ring(3, 6), 0, 1, 0, 20, 6 * 16, 6 * 16 + 13, 3);
+        CHECKS.dueWay(Checks.ring(3, 6), 1, 0, 0, 20, 6 * 16 + 13, 6 * 16, 3);
+        CorridorPlan below = new CorridorPlan();
+        below.room(2, 11, 1, 1);
+        below.room(8, 11, 1, 1);
+        below.walk(0, 1, 2);
+        CHECKS.dueWay(below, 0, 1, 10, 4, 10 * 16 + 3, 10 * 16 + 6, 2);
+        CorridorPlan right = new CorridorPlan();
+        right.room(15, 2, 1, 1);
+        right.room(15, 8, 1, 1);
+        right.walk(0, 1, 3);
+        CHECKS.dueWay(right, 0, 1, 15, 3, 3 * 16 + 13, 5 * 16 + 13, 3);
     }
 
     private static void wayRefused() {

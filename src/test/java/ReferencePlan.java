@@ -529,7 +529,7 @@ final class ReferencePlan {
         for (int y = 0; y + width <= 12; y++) {
             for (int x = 0; x + width <= 16; x++) {
                 Set<Integer> squares = new Box(x, y, width, width).squares();
-                if (state.chambers.values().stream().noneMatch(box -> box.squares().stream().anyMatch(squares::contains))) {
+                if (squares.stream().allMatch(square -> what(state, square) < 0)) {
                     places.put(16 * y + x, squares);
                 }
             }
@@ -591,7 +591,7 @@ final class ReferencePlan {
     }
 
     private static int rock(State state, Set<Integer> squares, Set<Integer> without) {
-        return (int) squares.stream().filter(square -> !state.dug.contains(square) && !without.contains(square)).count();
+        return (int) squares.stream().filter(square -> what(state, square) == -2 && !without.contains(square)).count();
     }
 
     private static List<Door> doors(State state) {
