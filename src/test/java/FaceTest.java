@@ -46,7 +46,24 @@ public final class FaceTest {
             checks.same(inside + " is static, not public or protected", Modifier.STATIC,
                     modifiers & (Modifier.STATIC | Modifier.PUBLIC | Modifier.PROTECTED));
         }
+        checks.same("names that are told twice", Set.of(), namesToldTwice());
         checks.end();
+    }
+
+    /** The language's rules leave no name of the face to a private method. */
+    private static Set<String> namesToldTwice() {
+        Set<String> face = new TreeSet<>();
+        Set<String> others = new TreeSet<>();
+        for (Method method : CorridorPlan.class.getDeclaredMethods()) {
+            (Modifier.isPublic(method.getModifiers()) ? face : others).add(method.getName());
+        }
+        for (Class<?> inside : CorridorPlan.class.getDeclaredClasses()) {
+            for (Method method : inside.getDeclaredMethods()) {
+                others.add(method.getName());
+            }
+        }
+        others.retainAll(face);
+        return others;
     }
 
     private static Set<String> methods() {
