@@ -14,6 +14,7 @@ public final class LooksTest {
         way();
         wayByPlaces();
         wayBroad();
+        wayOverDugSquares();
         wayAtTheEdges();
         wayRefused();
         count();
@@ -243,6 +244,30 @@ public final class LooksTest {
         CHECKS.dueWay(edge, 0, 1, 12, 2, 9 * 16 + 1, 9 * 16 + 2, 3);
     }
 
+    /** Broad walkers down and up, and to both sides, over squares of which some are dug. */
+    private static void wayOverDugSquares() {
+        CorridorPlan plan = new CorridorPlan();
+        plan.room(2, 0, 2, 1);
+        plan.room(2, 7, 2, 1);
+        Checks.digAll(plan, 3 * 16 + 2, 3 * 16 + 3);
+        plan.walk(0, 1, 2);
+        CHECKS.dueWay(plan, 0, 1, 10, 5, 1 * 16 + 2, 5 * 16 + 2, 2);
+        CHECKS.dueWay(plan, 1, 0, 10, 5, 5 * 16 + 2, 1 * 16 + 2, 2);
+        plan.walk(0, 1, 3);
+        CHECKS.dueWay(plan, 0, 1, 16, 4, 1 * 16 + 1, 4 * 16 + 1, 3);
+        CHECKS.dueWay(plan, 1, 0, 16, 4, 4 * 16 + 1, 1 * 16 + 1, 3);
+        CorridorPlan aside = new CorridorPlan();
+        aside.room(0, 2, 1, 2);
+        aside.room(7, 2, 1, 2);
+        Checks.digAll(aside, 2 * 16 + 3, 3 * 16 + 3);
+        aside.walk(0, 1, 2);
+        CHECKS.dueWay(aside, 0, 1, 10, 5, 2 * 16 + 1, 2 * 16 + 5, 2);
+        CHECKS.dueWay(aside, 1, 0, 10, 5, 2 * 16 + 5, 2 * 16 + 1, 2);
+        aside.walk(0, 1, 3);
+        CHECKS.dueWay(aside, 0, 1, 16, 4, 1 * 16 + 1, 1 * 16 + 4, 3);
+        CHECKS.dueWay(aside, 1, 0, 16, 4, 1 * 16 + 4, 1 * 16 + 1, 3);
+    }
+
     /** Open ways along all sides of the plan, over all its corners: for one, and for a cart. */
     private static void wayAtTheEdges() {
         CHECKS.dueWay(Checks.ring(1, 0), 0, 1, 0, 26, 5 * 16, 5 * 16 + 15, 1);
@@ -258,6 +283,11 @@ public final class LooksTest {
         below.room(8, 11, 1, 1);
         below.walk(0, 1, 2);
         CHECKS.dueWay(below, 0, 1, 10, 4, 10 * 16 + 3, 10 * 16 + 6, 2);
+        CorridorPlan nearBelow = new CorridorPlan();
+        nearBelow.room(2, 11, 1, 1);
+        nearBelow.room(5, 11, 1, 1);
+        nearBelow.walk(0, 1, 2);
+        CHECKS.dueWay(nearBelow, 0, 1, 4, 1, 10 * 16 + 3, 10 * 16 + 3, 2);
         CorridorPlan right = new CorridorPlan();
         right.room(15, 2, 1, 1);
         right.room(15, 8, 1, 1);
