@@ -31,7 +31,8 @@ public final class DiggingTest {
         CHECKS.due("dig(2, 1), filled again", 0, plan.dig(2, 1));
         CHECKS.duePicture(plan, "with two squares", ".##############.", "AA####BB####CC##", "AA####BB####CC##");
         CHECKS.due("dig(0, 0), filled again", 0, plan.dig(0, 0));
-        CHECKS.duePicture(plan, "with one square", "###############.", "AA####BB####CC##", "AA####BB####CC##");
+        CHECKS.due("square(0, 0, 0), filled", -2, plan.square(0, 0, 0));
+        CHECKS.due("square(15, 0, 0), still dug", -1, plan.square(15, 0, 0));
         CHECKS.due("undo()", 5, plan.undo());
         CHECKS.duePicture(plan, "behind undo", ".##############.", "AA####BB####CC##", "AA####BB####CC##");
         CHECKS.due("dig(15, 11)", 1, plan.dig(15, 11));
@@ -56,9 +57,9 @@ public final class DiggingTest {
         CHECKS.due("undo()", 5, plan.undo());
         CHECKS.due("undo()", 4, plan.undo());
         CHECKS.duePicture(plan, "behind undo", ROCK, "AA####BB####CC##", "AA#.##BB####CC##");
-        plan.dig(3, 2);
-        CHECKS.due("carve(0, 2), round B", 12, plan.carve(0, 2));
-        CHECKS.duePicture(plan, "behind carve(0, 2)", "#............###", "AA####BB####CC##", "AA####BB####CC##");
+        CorridorPlan round = Checks.threeInARow();
+        CHECKS.due("carve(0, 2), round B", 12, round.carve(0, 2));
+        CHECKS.duePicture(round, "behind carve(0, 2)", "#............###", "AA####BB####CC##", "AA####BB####CC##");
         CorridorPlan corner = new CorridorPlan();
         corner.room(0, 0, 2, 2);
         corner.room(2, 2, 1, 1);

@@ -7,7 +7,8 @@ import java.util.Random;
  * again and again, the whole state must be the same.
  */
 public final class ReferenceTest {
-    private static final int CALLS = 500;
+    /** So many that with the last looks at the whole an object is used for at most 512 calls. */
+    private static final int CALLS = 260;
 
     private interface Call {
         long answer();
@@ -26,7 +27,7 @@ public final class ReferenceTest {
     }
 
     public static void main(String[] arguments) {
-        int runs = arguments.length > 0 ? Integer.parseInt(arguments[0]) : 40;
+        int runs = arguments.length > 0 ? Integer.parseInt(arguments[0]) : 60;
         int firstSeed = arguments.length > 1 ? Integer.parseInt(arguments[1]) : 1;
         for (int seed = firstSeed; seed < firstSeed + runs; seed++) {
             new ReferenceTest(seed).play();

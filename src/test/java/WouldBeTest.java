@@ -134,29 +134,44 @@ public final class WouldBeTest {
     private static void digestOfAll() {
         CHECKS.due("digest()", hash(valuesOf(Checks.noWayForCarts(), "")), Checks.noWayForCarts().digest());
         CHECKS.due("digest()", hash(valuesOf(Checks.windingForCarts(), "")), Checks.windingForCarts().digest());
+        for (int steps = 0; steps <= 30; steps++) {
+            CHECKS.due("digest() behind " + steps + " steps", hash(valuesOf(sixChambers(steps), "AB:one;")),
+                    sixChambers(steps).digest());
+        }
+        CHECKS.due("digest() without A", hash(valuesOf(withoutTheFirst(), "AB:one;")), withoutTheFirst().digest());
+        CorridorPlan inTheMiddle = new CorridorPlan();
+        inTheMiddle.room(7, 5, 3, 3);
+        inTheMiddle.room(1, 1, 1, 1);
+        CHECKS.due("digest() with (8, 6) in A", hash(valuesOf(inTheMiddle, "")), inTheMiddle.digest());
+    }
+
+    /** Six chambers; the steps 1 to 15 tell who walks between each two, the steps 16 to 30 carve their ways. */
+    private static CorridorPlan sixChambers(int steps) {
         CorridorPlan plan = new CorridorPlan();
         for (int room = 0; room < 6; room++) {
             plan.room(1 + 5 * (room % 3), 1 + 5 * (room / 3), 2, 2 + room / 3);
         }
         Checks.type(plan, "AB:one;");
-        for (int one = 0; one < 6; one++) {
-            for (int other = one + 1; other < 6; other++) {
-                plan.walk(one, other, 1 + (one + other) % 3);
-                CHECKS.due("digest(), walked", hash(valuesOf(plan, "AB:one;")), plan.digest());
+        int step = 0;
+        for (int round = 0; round < 2; round++) {
+            for (int one = 0; one < 6; one++) {
+                for (int other = one + 1; other < 6; other++) {
+                    step++;
+                    if (step <= steps && round == 0) {
+                        plan.walk(one, other, 1 + (one + other) % 3);
+                    } else if (step <= steps) {
+                        plan.carve(one, other);
+                    }
+                }
             }
         }
-        for (int one = 0; one < 6; one++) {
-            for (int other = one + 1; other < 6; other++) {
-                plan.carve(one, other);
-                CHECKS.due("digest(), carved", hash(valuesOf(plan, "AB:one;")), plan.digest());
-            }
-        }
+        return plan;
+    }
+
+    private static CorridorPlan withoutTheFirst() {
+        CorridorPlan plan = sixChambers(22);
         plan.give(0);
-        CHECKS.due("digest() without A", hash(valuesOf(plan, "AB:one;")), plan.digest());
-        CorridorPlan inTheMiddle = new CorridorPlan();
-        inTheMiddle.room(7, 5, 3, 3);
-        inTheMiddle.room(1, 1, 1, 1);
-        CHECKS.due("digest() with (8, 6) in A", hash(valuesOf(inTheMiddle, "")), inTheMiddle.digest());
+        return plan;
     }
 
     private static List<Long> valuesOf(CorridorPlan plan, String buffer) {
