@@ -1,4 +1,7 @@
+import java.lang.reflect.InvocationTargetException;
+import java.lang.reflect.Method;
 import java.util.Arrays;
+import java.util.Comparator;
 import java.util.Objects;
 
 /** How the tests tell what is due, and the plans that several of them use. */
@@ -33,6 +36,31 @@ final class Checks {
         }
     }
 
+    /**
+     * Runs each test of a class by itself: the methods whose names begin with "promise" and its number. What one of
+     * them finds is told under its name, and one that throws does not keep the others from running.
+     */
+    void runEach(Class<?> tests) {
+        Method[] methods = tests.getDeclaredMethods();
+        Arrays.sort(methods, Comparator.comparing(Method::getName));
+        for (Method method : methods) {
+            if (method.getName().startsWith("promise")) {
+                promise(method.getName().substring("promise".length()));
+                run(method);
+            }
+        }
+    }
+
+    private void run(Method test) {
+        try {
+            test.invoke(null);
+        } catch (InvocationTargetException e) {
+            same("the test", "no exception", "threw " + e.getCause());
+        } catch (IllegalAccessException e) {
+            same("the test", "a method that can be called", e.getMessage());
+        }
+    }
+
     void due(String call, long want, long got) {
         same(call, want, got);
     }
@@ -55,6 +83,19 @@ final class Checks {
         }
         same(call + " throws", want, got);
         due(call + " throws and changes nothing: digest()", before, plan.digest());
+    }
+
+    /** The call throws just this, and leaves all six states that are saved as they were. */
+    void dueSavedStatesStay(CorridorPlan plan, String call, Class<?> want, Call made) {
+        for (int far = 3; far <= 8; far++) {
+            plan.set(far);
+        }
+        dueThrow(plan, call, want, made);
+        for (int left = 5; left >= 0; left--) {
+            due("undo() behind " + call, left, plan.undo());
+        }
+        dueThrow(plan, "undo() behind all behind " + call, ILLEGAL_STATE, plan::undo);
+        due("set(9), what was in the oldest state behind " + call, 2, plan.set(9));
     }
 
     void duePicture(CorridorPlan plan, String when, String... upperRows) {
@@ -91,13 +132,44 @@ final class Checks {
         return picture.toString();
     }
 
-    /** The upper rows of a picture; all rows below them are rock. */
+    /** The upper rows of a picture; all below them, and to the right of them, is rock. */
     static String rows(String... upper) {
         StringBuilder picture = new StringBuilder();
         for (int y = 0; y < 12; y++) {
-            picture.append(y < upper.length ? upper[y] : "################").append('\n');
+            String row = y < upper.length ? upper[y] : "";
+            picture.append(row).append("#".repeat(16 - row.length())).append('\n');
         }
         return picture.toString();
+    }
+
+    /** A plan by the upper rows of its picture, which may end where only rock follows; the setting 0 is as at first. */
+    static CorridorPlan plan(String... upperRows) {
+        CorridorPlan plan = new CorridorPlan();
+        for (char letter = 'A'; letter <= 'F'; letter++) {
+            addChamber(plan, letter, upperRows);
+        }
+        for (int y = 0; y < upperRows.length; y++) {
+            for (int x = 0; x < upperRows[y].length(); x++) {
+                if (upperRows[y].charAt(x) == '.') {
+                    plan.dig(x, y);
+                }
+            }
+        }
+        return plan;
+    }
+
+    private static void addChamber(CorridorPlan plan, char letter, String... upperRows) {
+        for (int y = 0; y < upperRows.length; y++) {
+            int x = upperRows[y].indexOf(letter);
+            if (x >= 0) {
+                int rows = 1;
+                while (y + rows < upperRows.length && upperRows[y + rows].indexOf(letter) == x) {
+                    rows++;
+                }
+                plan.room(x, y, upperRows[y].lastIndexOf(letter) - x + 1, rows);
+                return;
+            }
+        }
     }
 
     /** Digs squares, or fills them, by their numbers. */

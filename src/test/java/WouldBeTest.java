@@ -114,35 +114,27 @@ public final class WouldBeTest {
             values.add(-2L);
         }
         values.addAll(List.of(0L, 0L, 0L, 0L, 0x3FF0000000000000L, 0L));
-        CHECKS.due("digest() of a new plan", hash(values), new CorridorPlan().digest());
+        CHECKS.due("digest() of a new plan", Digests.hash(values), new CorridorPlan().digest());
         CorridorPlan plan = new CorridorPlan();
         plan.append(33);
         values.set(values.size() - 1, 1L);
         values.add(33L);
-        CHECKS.due("digest() with a buffer", hash(values), plan.digest());
-    }
-
-    private static long hash(List<Long> values) {
-        long hash = 2857;
-        for (long value : values) {
-            hash = 31 * hash + value;
-        }
-        return hash;
+        CHECKS.due("digest() with a buffer", Digests.hash(values), plan.digest());
     }
 
     /** Plans with each share of open ways that there can be, by what the looks answer. */
     private static void digestOfAll() {
-        CHECKS.due("digest()", hash(valuesOf(Checks.noWayForCarts(), "")), Checks.noWayForCarts().digest());
-        CHECKS.due("digest()", hash(valuesOf(Checks.windingForCarts(), "")), Checks.windingForCarts().digest());
+        CHECKS.due("digest()", Digests.of(Checks.noWayForCarts(), 2, ""), Checks.noWayForCarts().digest());
+        CHECKS.due("digest()", Digests.of(Checks.windingForCarts(), 2, ""), Checks.windingForCarts().digest());
         for (int steps = 0; steps <= 30; steps++) {
-            CHECKS.due("digest() behind " + steps + " steps", hash(valuesOf(sixChambers(steps), "AB:one;")),
+            CHECKS.due("digest() behind " + steps + " steps", Digests.of(sixChambers(steps), 2, "AB:one;"),
                     sixChambers(steps).digest());
         }
-        CHECKS.due("digest() without A", hash(valuesOf(withoutTheFirst(), "AB:one;")), withoutTheFirst().digest());
+        CHECKS.due("digest() without A", Digests.of(withoutTheFirst(), 2, "AB:one;"), withoutTheFirst().digest());
         CorridorPlan inTheMiddle = new CorridorPlan();
         inTheMiddle.room(7, 5, 3, 3);
         inTheMiddle.room(1, 1, 1, 1);
-        CHECKS.due("digest() with (8, 6) in A", hash(valuesOf(inTheMiddle, "")), inTheMiddle.digest());
+        CHECKS.due("digest() with (8, 6) in A", Digests.of(inTheMiddle, 2, ""), inTheMiddle.digest());
     }
 
     /** Six chambers; the steps 1 to 15 tell who walks between each two, the steps 16 to 30 carve their ways. */
@@ -172,49 +164,6 @@ public final class WouldBeTest {
         CorridorPlan plan = sixChambers(22);
         plan.give(0);
         return plan;
-    }
-
-    private static List<Long> valuesOf(CorridorPlan plan, String buffer) {
-        List<Long> values = new ArrayList<>();
-        for (int what = 0; what <= 8; what++) {
-            values.add((long) plan.count(what));
-        }
-        values.add(2L);
-        List<Integer> chambers = new ArrayList<>();
-        for (int square = 0; square < 192; square++) {
-            int what = plan.square(square % 16, square / 16, 0);
-            values.add((long) what);
-            if (what == -1) {
-                values.add((long) plan.square(square % 16, square / 16, 1));
-            } else if (what >= 0 && !chambers.contains(what)) {
-                chambers.add(what);
-            }
-        }
-        chambers.sort(null);
-        for (int room : chambers) {
-            values.add((long) room);
-            for (int what = 0; what <= 7; what++) {
-                values.add((long) plan.chamber(room, what));
-            }
-        }
-        for (int one : chambers) {
-            for (int other : chambers) {
-                for (int what = 0; one < other && what <= 4; what++) {
-                    values.add((long) plan.way(one, other, what));
-                }
-            }
-        }
-        for (int what = 0; what <= 2; what++) {
-            values.add((long) plan.ifDug(8, 6, what));
-        }
-        values.add((long) plan.ifGiven(chambers.get(0)));
-        values.add((long) plan.allCost());
-        values.add(Double.doubleToLongBits(plan.openShare()));
-        values.add((long) buffer.length());
-        for (char code : buffer.toCharArray()) {
-            values.add((long) code);
-        }
-        return values;
     }
 
     private static void nothingIsChanged() {
