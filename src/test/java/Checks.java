@@ -225,6 +225,15 @@ final class Checks {
         return plan;
     }
 
+    /** A and B at the left, and between them an open way that goes to and fro over the whole plan. */
+    static CorridorPlan toAndFro() {
+        String open = "................";
+        String atLeft = ".";
+        String atRight = "###############.";
+        return plan("A...............", atRight, open, atLeft, open, atRight, open, atLeft, open, atRight,
+                "B...............");
+    }
+
     /**
      * A at the left and B at the right, on the rows 5 and 6, with a ring of some width dug along the sides of the
      * plan, from row 0 to 5 or from row 6 to 11; who walks there is as broad as the ring.

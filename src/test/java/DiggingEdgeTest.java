@@ -190,6 +190,32 @@ public final class DiggingEdgeTest {
         CHECKS.duePicture(plan, "behind carve(0, 1)", "A...B", "#...", "#...");
     }
 
+    /** Two squares of the way are dug already, and C keeps it from going past the corner. */
+    static void promise6_eachCornerOfThePlanIsDug() {
+        for (int corner : new int[] {0, 15, 176, 191}) {
+            int x = corner % 16;
+            int y = corner / 16;
+            int inX = x == 0 ? 1 : -1;
+            int inY = y == 0 ? 1 : -1;
+            CorridorPlan plan = new CorridorPlan();
+            plan.room(x, y + 2 * inY, 1, 1);
+            plan.room(x + 2 * inX, y, 1, 1);
+            plan.room(x + inX, y + inY, 1, 1);
+            plan.dig(x, y + inY);
+            plan.dig(x + inX, y);
+            CHECKS.due("carve(0, 1) around the corner " + corner, 1, plan.carve(0, 1));
+            CHECKS.due("square() of the corner " + corner, -1, plan.square(x, y, 0));
+        }
+    }
+
+    static void promise6_noEarlierWayIsDugAgain() {
+        CorridorPlan plan = Checks.plan("#A", "B", "", "C#D");
+        CHECKS.due("carve(0, 1)", 1, plan.carve(0, 1));
+        plan.dig(0, 0);
+        CHECKS.due("carve(2, 3)", 1, plan.carve(2, 3));
+        CHECKS.duePicture(plan, "behind carve(2, 3)", "#A", "B", "", "C.D");
+    }
+
     static void promise6_aSquareIsCountedOnce() {
         CorridorPlan plan = Checks.windingForCarts();
         CHECKS.due("way(0, 1, 0)", 69, plan.way(0, 1, 0));
@@ -329,14 +355,19 @@ public final class DiggingEdgeTest {
         CHECKS.duePicture(plan, "behind carveAll()", "B#A.C", "B.A.", "....", "...");
     }
 
+    /** None of the fifteen ways is opened by digging the others. */
     static void promise7_allFifteenWaysAreDug() {
-        CorridorPlan plan = Checks.plan("A##B##C", "", "", "D##E##F");
+        CorridorPlan plan = Checks.plan("", "", "", "#E###########B", "#E###########B", "#E###########B", "#E######D#F",
+                "########D#F", "########D#F#A", "#CC#####D");
+        int[] widths = {1, 1, 1, 2, 1, 2, 3, 3, 3, 1, 1, 2, 2, 2, 1};
+        int pair = 0;
         for (int one = 0; one < 6; one++) {
             for (int other = one + 1; other < 6; other++) {
-                plan.walk(one, other, 1 + (one + other) % 2);
+                plan.walk(one, other, widths[pair]);
+                pair++;
             }
         }
-        plan.carveAll();
+        CHECKS.due("carveAll()", 15, plan.carveAll());
         CHECKS.due("count(4)", 0, plan.count(4));
         CHECKS.due("count(7)", 0, plan.count(7));
         CHECKS.same("openShare()", 1.0, plan.openShare());
@@ -430,6 +461,32 @@ public final class DiggingEdgeTest {
         plan.walk(0, 2, 1);
         CHECKS.due("fillUp()", 1, plan.fillUp());
         CHECKS.duePicture(plan, "behind fillUp()", "", "A.B.C", "#...#");
+    }
+
+    static void promise8_aWayAlongTheSidesOfThePlanStays() {
+        for (int width = 1; width <= 3; width++) {
+            for (int firstRow = 0; firstRow <= 6; firstRow += 6) {
+                CorridorPlan plan = Checks.ring(width, firstRow);
+                CHECKS.due("fillUp() of a ring of width " + width + " from row " + firstRow, 0, plan.fillUp());
+            }
+        }
+    }
+
+    static void promise8_aLongWayStays() {
+        CorridorPlan plan = Checks.toAndFro();
+        plan.walk(0, 1, 1);
+        CHECKS.due("fillUp()", 0, plan.fillUp());
+        CHECKS.due("count(1)", 99, plan.count(1));
+    }
+
+    static void promise8_noEarlierWayStays() {
+        CorridorPlan plan = Checks.plan("#A", "B");
+        plan.walk(0, 1, 1);
+        CHECKS.due("carve(0, 1)", 1, plan.carve(0, 1));
+        CHECKS.due("fillUp()", 0, plan.fillUp());
+        plan.walk(0, 1, 0);
+        CHECKS.due("fillUp() where nobody walks", 1, plan.fillUp());
+        CHECKS.duePicture(plan, "behind fillUp()", "#A", "B");
     }
 
     static void promise8_chambersStay() {

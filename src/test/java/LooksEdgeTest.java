@@ -194,6 +194,21 @@ public final class LooksEdgeTest {
         CHECKS.due("chamber(0, 4)", 4, plan.chamber(0, 4));
     }
 
+    static void promise16_doorsAtEachSideAndCornerOfThePlan() {
+        for (int number : new int[] {7, 5 * 16, 5 * 16 + 15, 11 * 16 + 7, 0, 15, 11 * 16, 11 * 16 + 15}) {
+            CorridorPlan plan = new CorridorPlan();
+            plan.room(number % 16, number / 16, 1, 1);
+            for (int square = 0; square < 192; square++) {
+                if (square != number) {
+                    plan.dig(square % 16, square / 16);
+                }
+            }
+            boolean isCorner = number % 16 % 15 == 0 && number / 16 % 11 == 0;
+            CHECKS.due("chamber(0, 4) on " + number, isCorner ? 2 : 3, plan.chamber(0, 4));
+            CHECKS.due("count(5) with a chamber on " + number, isCorner ? 2 : 3, plan.count(5));
+        }
+    }
+
     static void promise16_aSquareIsADoorOfEachChamberBesideIt() {
         CorridorPlan plan = Checks.plan("A.B", "#C");
         for (int room = 0; room < 3; room++) {
@@ -280,6 +295,18 @@ public final class LooksEdgeTest {
         same.dig(11, 11);
         same.set(9);
         CHECKS.due("count(6) on the same row and column", 0, same.count(6));
+    }
+
+    static void promise16_doorsFaceAlongTheSidesOfThePlan() {
+        int[][] squares = {{0, 1, 2}, {13, 14, 15}, {0, 16, 32}, {15, 31, 47}, {176, 177, 178}, {189, 190, 191},
+            {144, 160, 176}, {159, 175, 191}};
+        for (int[] row : squares) {
+            CorridorPlan plan = new CorridorPlan();
+            plan.room(row[0] % 16, row[0] / 16, 1, 1);
+            plan.room(row[2] % 16, row[2] / 16, 1, 1);
+            Checks.digAll(plan, row[1]);
+            dueFacing(plan, 0, 1);
+        }
     }
 
     static void promise16_eachFacingDoorIsCounted() {
@@ -486,6 +513,59 @@ public final class LooksEdgeTest {
         upAndDown.room(3, 10, 1, 1);
         Checks.digAll(upAndDown, 3, 11 * 16 + 3);
         CHECKS.dueWay(upAndDown, 0, 1, 8, 8, 2 * 16 + 3, 9 * 16 + 3, 0);
+    }
+
+    /** Behind the last column there is a place of the next row that is just as far from B as the place that is due. */
+    static void promise17_noPlaceAroundTheSidesComesNext() {
+        CorridorPlan right = new CorridorPlan();
+        right.room(15, 3, 1, 1);
+        right.room(7, 11, 2, 1);
+        for (int y = 5; y < 11; y++) {
+            Checks.digAll(right, 16 * y, 16 * y + 15);
+        }
+        Checks.digAll(right, 4 * 16 + 15);
+        for (int x = 0; x < 16; x++) {
+            if (x != 7 && x != 8) {
+                right.dig(x, 11);
+            }
+        }
+        CHECKS.dueWay(right, 0, 1, 0, 14, 4 * 16 + 15, 11 * 16 + 9, 0);
+        CorridorPlan left = new CorridorPlan();
+        left.room(0, 6, 1, 1);
+        left.room(6, 4, 5, 2);
+        CHECKS.dueWay(left, 0, 1, 6, 6, 5 * 16, 5 * 16 + 5, 0);
+    }
+
+    static void promise17_onePlaceInEachCornerOfThePlan() {
+        for (int corner : new int[] {0, 15, 176, 191}) {
+            int x = corner % 16;
+            int y = corner / 16;
+            CorridorPlan plan = new CorridorPlan();
+            plan.room(x == 0 ? 1 : 14, y, 1, 1);
+            plan.room(x, y == 0 ? 1 : 10, 1, 1);
+            plan.dig(x, y);
+            CHECKS.dueWay(plan, 0, 1, 0, 1, corner, corner, 0);
+        }
+    }
+
+    /** Open ways from the row 5 up and around, or from the row 6 down and around, over two corners of the plan. */
+    static void promise17_aWayAlongTheSidesOfThePlan() {
+        for (int width = 1; width <= 3; width++) {
+            int places = 29 - 3 * width;
+            int atRight = 16 - width;
+            int above = (6 - width) * 16;
+            CHECKS.dueWay(Checks.ring(width, 0), 0, 1, 0, places, above, above + atRight, width);
+            CHECKS.dueWay(Checks.ring(width, 0), 1, 0, 0, places, above + atRight, above, width);
+            int below = 6 * 16;
+            CHECKS.dueWay(Checks.ring(width, 6), 0, 1, 0, places, below, below + atRight, width);
+            CHECKS.dueWay(Checks.ring(width, 6), 1, 0, 0, places, below + atRight, below, width);
+        }
+    }
+
+    /** The open way of 99 places comes before ways of a few places and one square of rock. */
+    static void promise17_theCostComesBeforeManyPlaces() {
+        CHECKS.dueWay(Checks.toAndFro(), 0, 1, 0, 99, 1, 161, 0);
+        CHECKS.dueWay(Checks.toAndFro(), 1, 0, 0, 99, 161, 1, 0);
     }
 
     static void promise17_theLastColumnForEachWidth() {

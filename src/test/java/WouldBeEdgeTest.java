@@ -430,16 +430,26 @@ public final class WouldBeEdgeTest {
     }
 
     static void promise23_theSavedStates() {
-        CorridorPlan plan = new CorridorPlan();
-        long first = plan.digest();
         for (int saved = 1; saved <= 7; saved++) {
-            plan.set(2);
-            dueDigest("with saved states", plan, 2, "");
+            CorridorPlan plan = new CorridorPlan();
+            for (int call = 0; call < saved; call++) {
+                plan.set(2);
+            }
+            dueDigest("behind " + saved + " undoable calls", plan, 2, "");
+        }
+    }
+
+    static void promise23_isTheSameBehindUndo() {
+        CorridorPlan plan = new CorridorPlan();
+        long[] digests = new long[6];
+        for (int saved = 0; saved < 6; saved++) {
+            digests[saved] = plan.digest();
+            plan.set(saved);
         }
         for (int left = 5; left >= 0; left--) {
             plan.undo();
+            CHECKS.due("digest() with " + left + " saved states left", digests[left], plan.digest());
         }
-        CHECKS.due("digest() behind all undo()", first, plan.digest());
     }
 
     static void promise23_nothingIsChanged() {
