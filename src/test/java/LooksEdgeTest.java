@@ -506,6 +506,39 @@ public final class LooksEdgeTest {
         CHECKS.dueWay(plan, 0, 1, 2, 2, 1, 16 + 1, 2);
     }
 
+    /** A is one square, and B is beside the other side of a cart's place that is dug. */
+    private static void dueAtA(boolean want, int x, int y, int ofBX, int ofBY) {
+        CorridorPlan plan = new CorridorPlan();
+        plan.room(7, 6, 1, 1);
+        plan.room(ofBX, ofBY, 1, 1);
+        plan.walk(0, 1, 3);
+        for (int square = 0; square < 9; square++) {
+            plan.dig(x + square % 3, y + square / 3);
+        }
+        if (want) {
+            CHECKS.dueWay(plan, 0, 1, 0, 1, 16 * y + x, 16 * y + x, 3);
+            CHECKS.dueWay(plan, 1, 0, 0, 1, 16 * y + x, 16 * y + x, 3);
+        } else {
+            CHECKS.due("count(4) with a place only at A's corner", 1, plan.count(4));
+        }
+    }
+
+    static void promise17_aCartIsAtAChamberWithAnyOfItsSquares() {
+        for (int aside = 0; aside < 3; aside++) {
+            dueAtA(true, 4, 4 + aside, 3, 5 + aside);
+            dueAtA(true, 8, 4 + aside, 11, 5 + aside);
+            dueAtA(true, 5 + aside, 3, 6 + aside, 2);
+            dueAtA(true, 5 + aside, 7, 6 + aside, 10);
+        }
+    }
+
+    static void promise17_aCartAtACornerIsNotAtTheChamber() {
+        dueAtA(false, 4, 3, 3, 4);
+        dueAtA(false, 8, 3, 11, 4);
+        dueAtA(false, 4, 7, 3, 8);
+        dueAtA(false, 8, 7, 11, 8);
+    }
+
     static void promise17_noWayAroundTheSidesOfThePlan() {
         CHECKS.dueWay(Checks.plan("##############A.", ".B"), 0, 1, 13, 13, 13, 1, 0);
         CorridorPlan upAndDown = new CorridorPlan();
