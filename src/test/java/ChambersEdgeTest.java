@@ -402,6 +402,28 @@ public final class ChambersEdgeTest {
         CHECKS.due("chamber(2, 6)", 1, plan.chamber(2, 6));
     }
 
+    static void promise3_whoWalksBetweenTheOthersStays() {
+        for (int given = 0; given < 6; given++) {
+            CorridorPlan plan = sixChambers();
+            for (int one = 0; one < 6; one++) {
+                for (int other = one + 1; other < 6; other++) {
+                    plan.walk(one, other, 1 + (one * 5 + other) % 3);
+                }
+            }
+            plan.give(given);
+            for (int one = 0; one < 6; one++) {
+                for (int other = one + 1; other < 6; other++) {
+                    if (one != given && other != given) {
+                        String when = "way(" + one + ", " + other + ", 4) behind give(" + given + ")";
+                        CHECKS.due(when, 1 + (one * 5 + other) % 3, plan.way(one, other, 4));
+                        CHECKS.due(when + ", the other way round", plan.way(one, other, 4), plan.way(other, one, 4));
+                    }
+                }
+            }
+            CHECKS.due("count(3) behind give(" + given + ")", 10, plan.count(3));
+        }
+    }
+
     static void promise3_nobodyWalksToANewOneOfItsNumber() {
         CorridorPlan plan = Checks.plan("A#B#C");
         plan.walk(0, 1, 1);

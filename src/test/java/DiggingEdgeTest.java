@@ -149,23 +149,75 @@ public final class DiggingEdgeTest {
         dueCarveRefused(plan, Checks.OUT_OF_BOUNDS, 0, 2);
     }
 
-    /** A and B at both ends, and between them a wall of two chambers that leaves some rows at the bottom. */
-    static void promise6_aWalkerJustFitsThrough() {
+    /** A wall of chambers is between A and B, that leaves so many rows or columns; the last of them is told. */
+    private static void dueFitsThrough(CorridorPlan plan, int gap, int width, int last) {
+        plan.walk(0, 1, width);
+        if (width > gap) {
+            dueCarveRefused(plan, Checks.ILLEGAL_STATE, 0, 1);
+        } else {
+            plan.carve(0, 1);
+            CHECKS.due("way(0, 1, 0) of width " + width + " through " + gap, 0, plan.way(0, 1, 0));
+            CHECKS.due("square() of " + last + " with width " + width + " through " + gap, width == gap ? -1 : -2,
+                    plan.square(last % 16, last / 16, 0));
+        }
+    }
+
+    private static CorridorPlan leftAndRight() {
+        CorridorPlan plan = new CorridorPlan();
+        plan.room(1, 5, 2, 2);
+        plan.room(13, 5, 2, 2);
+        return plan;
+    }
+
+    private static CorridorPlan aboveAndBelow() {
+        CorridorPlan plan = new CorridorPlan();
+        plan.room(7, 1, 2, 2);
+        plan.room(7, 9, 2, 2);
+        return plan;
+    }
+
+    static void promise6_aWalkerJustFitsThroughAtTheBottom() {
         for (int gap = 0; gap <= 3; gap++) {
             for (int width = 1; width <= 3; width++) {
-                CorridorPlan plan = new CorridorPlan();
-                plan.room(1, 2, 2, 2);
-                plan.room(13, 2, 2, 2);
+                CorridorPlan plan = leftAndRight();
                 plan.room(7, 0, 1, 6);
                 plan.room(8, 6, 1, 6 - gap);
-                plan.walk(0, 1, width);
-                if (width > gap) {
-                    dueCarveRefused(plan, Checks.ILLEGAL_STATE, 0, 1);
-                } else {
-                    plan.carve(0, 1);
-                    CHECKS.due("way(0, 1, 0) of width " + width + " through " + gap, 0, plan.way(0, 1, 0));
-                    CHECKS.due("square(8, 11, 0)", width == gap ? -1 : -2, plan.square(8, 11, 0));
-                }
+                dueFitsThrough(plan, gap, width, 11 * 16 + 8);
+            }
+        }
+    }
+
+    static void promise6_aWalkerJustFitsThroughAtTheTop() {
+        for (int gap = 0; gap <= 3; gap++) {
+            for (int width = 1; width <= 3; width++) {
+                CorridorPlan plan = leftAndRight();
+                plan.room(7, gap, 1, 6 - gap);
+                plan.room(8, 6, 1, 6);
+                dueFitsThrough(plan, gap, width, 7);
+            }
+        }
+    }
+
+    static void promise6_aWalkerJustFitsThroughAtTheRight() {
+        for (int gap = 0; gap <= 3; gap++) {
+            for (int width = 1; width <= 3; width++) {
+                CorridorPlan plan = aboveAndBelow();
+                plan.room(0, 5, 6, 1);
+                plan.room(6, 6, 6, 1);
+                plan.room(12, 5, 4 - gap, 1);
+                dueFitsThrough(plan, gap, width, 5 * 16 + 15);
+            }
+        }
+    }
+
+    static void promise6_aWalkerJustFitsThroughAtTheLeft() {
+        for (int gap = 0; gap <= 3; gap++) {
+            for (int width = 1; width <= 3; width++) {
+                CorridorPlan plan = aboveAndBelow();
+                plan.room(10, 5, 6, 1);
+                plan.room(4, 6, 6, 1);
+                plan.room(gap, 5, 4 - gap, 1);
+                dueFitsThrough(plan, gap, width, 5 * 16);
             }
         }
     }
